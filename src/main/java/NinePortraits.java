@@ -107,19 +107,16 @@ public final class NinePortraits {
     }
 
     public int text(int sort) {
-        if (sort == COURT_SORT) {
+        if (sort == COURT_SORT && courtReader.read(tape, draft) == NONE) {
             return takeCourt();
         }
-        if (sort == LAW_SORT) {
+        if (sort == LAW_SORT && lawCount < MOST_LAWS && lawReader.read(tape) == NONE) {
             return takeLaw();
         }
         return NONE;
     }
 
     private int takeCourt() {
-        if (courtReader.read(tape, draft) != NONE) {
-            return NONE;
-        }
         tape.length = 0;
         court.become(draft);
         state.begin(court);
@@ -129,9 +126,6 @@ public final class NinePortraits {
     }
 
     private int takeLaw() {
-        if (lawCount >= MOST_LAWS || lawReader.read(tape) != NONE) {
-            return NONE;
-        }
         tape.length = 0;
         laws[lawCount] = lawReader.made();
         lawCount++;
@@ -413,15 +407,16 @@ public final class NinePortraits {
         if (!isBride(bride) || what < 0 || what > 1) {
             return NONE;
         }
-        int face = mind.likelyFace(bride);
-        return what == 0 ? face : mind.share(face);
+        mind.weigh(bride);
+        return what == 0 ? mind.likelyFace : mind.share(mind.likelyFace);
     }
 
     public int sure(int bride, int t) {
         if (!isBride(bride) || t < 1 || t > PARTS_OF_BELIEF) {
             return NONE;
         }
-        return mind.share(mind.likelyFace(bride)) >= t ? 1 : 0;
+        mind.weigh(bride);
+        return mind.share(mind.likelyFace) >= t ? 1 : 0;
     }
 
     public int next(int bride) {
@@ -452,21 +447,19 @@ public final class NinePortraits {
         int best = 0;
         int bestWorth = NONE;
         for (int bride = 0; bride < court.brides; bride++) {
-            int worth = court.worthWith(bride, faceLookedAt(bride, what));
+            // A face of 0 adds nothing, so the dowry alone is left.
+            int face = what == 1 ? court.faceOf(bride) : 0;
+            if (what == 0) {
+                mind.weigh(bride);
+                face = mind.likelyFace;
+            }
+            int worth = court.worthWith(bride, face);
             if (worth > bestWorth) {
                 best = bride;
                 bestWorth = worth;
             }
         }
         return best;
-    }
-
-    private int faceLookedAt(int bride, int what) {
-        if (what == 0) {
-            return mind.likelyFace(bride);
-        }
-        // A face of 0 adds nothing, so the dowry alone is left.
-        return what == 1 ? court.faceOf(bride) : 0;
     }
 
     // ---- houses and painters ----
@@ -628,7 +621,8 @@ public final class NinePortraits {
     private int plainBrides() {
         int brides = 0;
         for (int bride = 0; bride < court.brides; bride++) {
-            if (mind.likelyFace(bride) < FAIR) {
+            mind.weigh(bride);
+            if (mind.likelyFace < FAIR) {
                 brides |= 1 << bride;
             }
         }
@@ -816,21 +810,18 @@ public final class NinePortraits {
             return true;
         }
 
-        boolean atDigit() {
-            return at < length && bytes[at] >= '0' && bytes[at] <= '9';
-        }
-
         /** The number that begins here; NONE, standing at the fault, if it is wrong. */
         int number(int digits, int most) {
-            if (!atDigit()) {
-                return NONE;
-            }
             int value = 0;
-            for (int i = 0; i < digits && atDigit(); i++) {
+            int had = 0;
+            for (; at < length && bytes[at] >= '0' && bytes[at] <= '9'; at++) {
+                if (had == digits) {
+                    return NONE;
+                }
                 value = 10 * value + bytes[at] - '0';
-                at++;
+                had++;
             }
-            if (atDigit()) {
+            if (had == 0) {
                 return NONE;
             }
             if (value > most) {
@@ -1118,7 +1109,7 @@ public final class NinePortraits {
                     value = b == 0 ? 0 : a / b;
                     break;
             }
-            return (int) Math.max(-BOUND, Math.min(BOUND, value));
+            return value > BOUND ? BOUND : value < -BOUND ? -BOUND : (int) value;
         }
     }
 
@@ -1269,7 +1260,11 @@ public final class NinePortraits {
                     return false;
                 }
                 tape.at++;
-                return sum(within + 1) && tape.takes(']');
+                if (!sum(within + 1) || tape.peek() != ']') {
+                    return false;
+                }
+                tape.at++;
+                return true;
             }
             for (int i = 0; i < LETTERS.length; i++) {
                 if (sign == LETTERS[i]) {
@@ -1471,20 +1466,17 @@ public final class NinePortraits {
         }
 
         int lookOf(int painter, int bride, int face, int pays) {
-            int look = law == null
-                ? face + flatteryFor(painter, pays) - court.wartsOf(bride) / 2
-                : lawfulLook(painter, bride, face, pays);
+            int look = face + flatteryFor(painter, pays) - court.wartsOf(bride) / 2;
+            if (law != null) {
+                letters[0] = face;
+                letters[1] = court.wartsOf(bride);
+                letters[2] = pays;
+                letters[3] = court.skillOf(painter);
+                letters[4] = state.fears[painter];
+                letters[5] = state.month;
+                look = law.answer(letters, stack);
+            }
             return Math.max(0, Math.min(NINE, look));
-        }
-
-        private int lawfulLook(int painter, int bride, int face, int pays) {
-            letters[0] = face;
-            letters[1] = court.wartsOf(bride);
-            letters[2] = pays;
-            letters[3] = court.skillOf(painter);
-            letters[4] = state.fears[painter];
-            letters[5] = state.month;
-            return law.answer(letters, stack);
         }
 
         int showOf(int painter, int bride, int face) {
@@ -1525,6 +1517,7 @@ public final class NinePortraits {
         private final Studio studio;
         private final long[] weights = new long[FACES];
         private long total;
+        int likelyFace;
         private final int[] views = new int[FACES];
         private final int[] alike = new int[NINE + 1];
         private final int[] tellers = new int[PAIRS_OF_FACES];
@@ -1547,7 +1540,7 @@ public final class NinePortraits {
             return faces;
         }
 
-        /** Fills the weights of the faces (0 of those that do not fit). */
+        /** Fills the weights of the faces (0 of those that do not fit), and finds the likely one. */
         void weigh(int bride) {
             int faces = fitting(bride);
             for (int f = 0; f < FACES; f++) {
@@ -1565,6 +1558,12 @@ public final class NinePortraits {
             for (int f = 0; f < FACES; f++) {
                 total += weights[f];
             }
+            likelyFace = 0;
+            for (int f = 1; f < FACES; f++) {
+                if (share(f) > share(likelyFace)) {
+                    likelyFace = f;
+                }
+            }
         }
 
         private void weighBy(int portrait, int bride) {
@@ -1581,17 +1580,6 @@ public final class NinePortraits {
         /** The belief in a face of the bride who was weighed last. */
         int share(int f) {
             return total == 0 ? 0 : (int) (weights[f] * PARTS_OF_BELIEF / total);
-        }
-
-        int likelyFace(int bride) {
-            weigh(bride);
-            int best = 0;
-            for (int f = 1; f < FACES; f++) {
-                if (share(f) > share(best)) {
-                    best = f;
-                }
-            }
-            return best;
         }
 
         private boolean sketches(int painter) {

@@ -222,31 +222,11 @@ final class ActTest {
         due.is("month", x.count(5), 5);
     }
 
-    private static String all(NinePortraits x) {
-        StringBuilder told = new StringBuilder();
-        for (int what = 5; what <= 7; what++) {
-            told.append(x.count(what)).append(' ');
-        }
-        told.append(x.rule(0));
-        for (int bride = 0; bride < x.count(0); bride++) {
-            told.append(" b").append(x.bride(bride, 3)).append(x.bride(bride, 4)).append(x.bride(bride, 5));
-        }
-        for (int painter = 0; painter < x.count(1); painter++) {
-            told.append(" p").append(x.painter(painter, 2));
-        }
-        for (int i = 0; i < x.count(7); i++) {
-            for (int what = 0; what < 4; what++) {
-                told.append(' ').append(x.portrait(i, what));
-            }
-        }
-        return told.toString();
-    }
-
     private static void undoOfAll() {
         NinePortraits x = Due.court("bf3w0y9;b;b;b;b;bd99;pa0;p;p;p;p");
         String[] states = new String[12];
         for (int act = 0; act < 11; act++) {
-            states[act] = all(x);
+            states[act] = Due.all(x);
             switch (act) {
                 case 0 -> x.paint(0, 0);
                 case 1 -> x.pay(5, 3);
@@ -264,7 +244,7 @@ final class ActTest {
         }
         for (int act = 10; act >= 0; act--) {
             due.is("undone " + act, x.undo(), act);
-            due.is("all of " + act + " is as it was", all(x).equals(states[act]), true);
+            due.is("all of " + act + " is as it was", Due.all(x).equals(states[act]), true);
         }
     }
 

@@ -86,4 +86,25 @@ final class Due {
             throw new IllegalStateException("no law: " + text);
         }
     }
+
+    /** All that acts change, as one text. */
+    static String all(NinePortraits x) {
+        StringBuilder told = new StringBuilder();
+        for (int what = 5; what <= 7; what++) {
+            told.append(x.count(what)).append(' ');
+        }
+        told.append(x.rule(0));
+        for (int bride = 0; bride < x.count(0); bride++) {
+            told.append(" b").append(x.bride(bride, 3)).append(x.bride(bride, 4)).append(x.bride(bride, 5));
+        }
+        for (int painter = 0; painter < x.count(1); painter++) {
+            told.append(" p").append(x.painter(painter, 2));
+        }
+        for (int i = 0; i < x.count(7); i++) {
+            for (int what = 0; what < 4; what++) {
+                told.append(' ').append(x.portrait(i, what));
+            }
+        }
+        return told.toString();
+    }
 }

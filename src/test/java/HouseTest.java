@@ -189,26 +189,6 @@ final class HouseTest {
         due.none("no court", new NinePortraits().image());
     }
 
-    private static String all(NinePortraits x) {
-        StringBuilder told = new StringBuilder();
-        for (int what = 5; what <= 7; what++) {
-            told.append(x.count(what)).append(' ');
-        }
-        told.append(x.rule(0));
-        for (int bride = 0; bride < x.count(0); bride++) {
-            told.append(" b").append(x.bride(bride, 3)).append(x.bride(bride, 4)).append(x.bride(bride, 5));
-        }
-        for (int painter = 0; painter < x.count(1); painter++) {
-            told.append(" p").append(x.painter(painter, 2));
-        }
-        for (int i = 0; i < x.count(7); i++) {
-            for (int what = 0; what < 4; what++) {
-                told.append(' ').append(x.portrait(i, what));
-            }
-        }
-        return told.toString();
-    }
-
     private static void imageKeepsAll() {
         NinePortraits x = Due.court("sp99;bf3w0y1;bf6;b;b;b;bf9;pf1a0;pf1;pf1;pf1;pf1a4");
         x.paint(0, 0);
@@ -219,7 +199,7 @@ final class HouseTest {
         x.shoe(1);
         x.wed(2);
         x.months(2);
-        String was = all(x);
+        String was = Due.all(x);
         x.image();
         x.undo();
         x.undo();
@@ -235,9 +215,9 @@ final class HouseTest {
         x.wed(5);
         x.bribes(3);
         x.paint(9, 9);
-        due.is("it is otherwise", all(x).equals(was), false);
+        due.is("it is otherwise", Due.all(x).equals(was), false);
         x.back();
-        due.is("all is so again", all(x).equals(was), true);
+        due.is("all is so again", Due.all(x).equals(was), true);
         due.is("BRIBES stay", x.count(8), 3);
         due.is("STATUS stays", x.status(0), 1);
     }
