@@ -139,6 +139,12 @@ final class ActTest {
         due.none("none is wed", x.annul());
         due.is("wed(1)", x.wed(1), 99);
         status(x, 3, 0, 0, 4, 4);
+        NinePortraits z = Due.court("bd10;bd70;bd99;p");
+        int[] purses = {41, 47, 49};
+        for (int bride = 0; bride < 3; bride++) {
+            due.is("wed(" + bride + ")", z.wed(bride), purses[bride]);
+            z.undo();
+        }
         NinePortraits y = Due.court("bd99;p");
         for (int i = 0; i < 16; i++) {
             y.months(60);

@@ -118,7 +118,11 @@ final class BeliefTest {
         due.is("not so sure", x.sure(0, 3000000 / 14 + 1), 0);
         due.is("sure of 1 part", x.sure(0, 1), 1);
         due.is("not sure of all", x.sure(0, 1000000), 0);
-        Due.law(x, "y:f/4*4+1");
+        for (int f = 0; f < 10; f++) {
+            NinePortraits z = Due.court("bf" + f + "w0y0;ps9");
+            z.paint(0, 0);
+            due.is("shown " + f, z.likely(0, 0), f);
+        }
         NinePortraits y = Due.court("bf6w0y0;ps9f0");
         Due.law(y, "y:f/4*4");
         y.paint(0, 0);
@@ -134,6 +138,10 @@ final class BeliefTest {
         due.is("from life none are alike, the lowest", x.next(0), 2);
         NinePortraits v = Due.court("bf9w2y0;pk2;pk1;pk3;pk0;pk0");
         due.is("0 and 1 look alike, two at most by hearsay too", v.next(0), 1);
+        NinePortraits w = Due.court("b;pk3;pk2;pk0");
+        Due.law(w, "y:5");
+        due.is("all are alike by all", w.next(0), 1);
+        due.none("by all", w.apart(0));
         NinePortraits y = Due.court("b;pk3;pk3");
         due.none("none of such a kind", y.next(0));
         NinePortraits z = Due.court("bf8w0y0;pk1;pk2;pk3");
@@ -155,6 +163,9 @@ final class BeliefTest {
         due.none("0 and 1 are alike by both", y.apart(0));
         NinePortraits z = Due.court("b;pk3");
         due.none("none of such a kind", z.apart(0));
+        NinePortraits t = Due.court("b;ps4;ps3;ps5");
+        Due.law(t, "y:s=4?f/5;y:s=3?f-f/5*5;y:f");
+        due.is("one is fewer than two", t.apart(0), 4);
         // Skills say which part of a face a painter sees: 4 the fives, 3 what is left, 2 a nine.
         NinePortraits w = Due.court("b;ps0;ps2;ps3;ps4;ps0k3");
         Due.law(w, "y:s=4?f/5;y:s=3?f-f/5*5;y:s=2?f/9;y:0");

@@ -98,6 +98,18 @@ final class ChoiceTest {
         due.none("no such painter", x.rests(0, 1, 1, -1));
         due.none("no such painter", x.rests(0, 1, -1, -1));
         due.none("alike", x.rests(1, 1, 0, -1));
+        NinePortraits z = Due.court("bf0w0;bf0w0;p");
+        Due.law(z, "y:y=9?9;y:0");
+        // Only 9 is of use: both gain nothing above 3 by it, and 2 against one who pays nothing.
+        due.is("both pay nought or one", z.rests(0, 1, 0, -1), 4);
+        due.is("0 and 0", z.rests(0, 1, 0, 0), 0);
+        due.is("1 and 1", z.rests(0, 1, 0, 3), 11);
+        NinePortraits w = Due.court("bf0w0;bf1w0;p");
+        Due.law(w, "y:f=0&y=9?9;y:f=1&y=9?8;y:f");
+        due.is("the one pays 9", w.rests(0, 1, 0, -1), 2);
+        due.is("9 and 0", w.rests(0, 1, 0, 0), 90);
+        due.is("9 and 1", w.rests(0, 1, 0, 1), 91);
+        due.is("turned round", w.rests(1, 0, 0, 0), 9);
         NinePortraits y = Due.court("bf0w0;bf0w0;pa0");
         due.is("each would pay more or nothing", y.rests(0, 1, 0, -1), 0);
         due.none("not one", y.rests(0, 1, 0, 0));

@@ -35,6 +35,16 @@ final class HouseTest {
         due.is("1 less 6", x.told(1), -5);
         due.hidden("none of its hand", x.told(2));
         due.is("lies", x.most(4), 3 + 1 + 4 + 6 + 4);
+        x.paint(2, 2);
+        due.is("3 less 8 still", x.told(0), -5);
+        due.is("6 of 5", x.told(2), x.portrait(0, 2) - 5);
+        x.paint(0, 0);
+        due.is("6 less 8", x.told(0), -2);
+        due.is("16 by 3 is 5", x.looks(0), 2);
+        x.undo();
+        x.undo();
+        due.is("undone", x.looks(0) * 10 + x.seen(0), 22);
+        due.hidden("undone", x.told(2));
         due.hidden("looks(3)", x.looks(3));
         due.hidden("looks(-1)", x.looks(-1));
         due.hidden("told(3)", x.told(3));

@@ -79,6 +79,8 @@ final class TextTest {
         courtFault("  p  ;  b  ", -1);
         courtFault("b", 1);
         courtFault("b ", 2);
+        courtFault("p", 1);
+        courtFault("p;s", 3);
         courtFault("b;", 2);
         courtFault("b;p;", 4);
         courtFault("b;;p", 2);
