@@ -259,35 +259,38 @@ public final class NinePortraits {
     }
 
     public int letter(int bride) {
-        if (!isBride(bride)) {
-            return refuse(NO_SUCH_ONE);
+        if (!paysToHear(bride, state.letters, LETTER_COST)) {
+            return NONE;
         }
-        if (bit(state.letters, bride) == 1) {
-            return refuse(OUT_OF_BOUNDS);
-        }
-        if (state.purse < LETTER_COST) {
-            return refuse(TOO_LITTLE);
-        }
-        acts.keep(state);
-        state.purse -= LETTER_COST;
         state.letters |= 1 << bride;
         return court.faceOf(bride) >= FAIR ? 1 : 0;
     }
 
     public int shoe(int bride) {
-        if (!isBride(bride)) {
-            return refuse(NO_SUCH_ONE);
+        if (!paysToHear(bride, state.shoes, SHOE_COST)) {
+            return NONE;
         }
-        if (bit(state.shoes, bride) == 1) {
-            return refuse(OUT_OF_BOUNDS);
-        }
-        if (state.purse < SHOE_COST) {
-            return refuse(TOO_LITTLE);
-        }
-        acts.keep(state);
-        state.purse -= SHOE_COST;
         state.shoes |= 1 << bride;
         return court.faceOf(bride) % 2;
+    }
+
+    /** Begins the act of a letter or a shoe, unless it is refused. */
+    private boolean paysToHear(int bride, int heardOf, int cost) {
+        int why = NONE;
+        if (!isBride(bride)) {
+            why = NO_SUCH_ONE;
+        } else if (bit(heardOf, bride) == 1) {
+            why = OUT_OF_BOUNDS;
+        } else if (state.purse < cost) {
+            why = TOO_LITTLE;
+        }
+        if (why != NONE) {
+            refuse(why);
+            return false;
+        }
+        acts.keep(state);
+        state.purse -= cost;
+        return true;
     }
 
     public int wed(int bride) {
