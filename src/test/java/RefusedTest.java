@@ -77,8 +77,10 @@ final class RefusedTest {
     public static void main(String[] args) {
         feed();
         end();
+        bytesBehindTheEnd();
         fault();
         text();
+        anotherCourt();
         rule();
         bride();
         painter();
@@ -168,6 +170,34 @@ final class RefusedTest {
         due.is("feed goes on there", Due.feed(x, "b"), 1);
     }
 
+    /** Bytes behind the end are not there, whatever they were. */
+    private static void bytesBehindTheEnd() {
+        String[] texts = {"b   ", "b;p 1", "b;pf1234", "b;pf ", "y:f+1", "y:f   ", "y:1234", "y:1;y"};
+        for (String text : texts) {
+            for (int n = 0; n <= text.length(); n++) {
+                NinePortraits x = new NinePortraits();
+                NinePortraits y = new NinePortraits();
+                Due.feed(x, text);
+                x.end(n);
+                Due.feed(y, text.substring(0, n));
+                due.is("fault(0) of " + n + " of <" + text + ">", x.fault(0), y.fault(0));
+                due.is("fault(1) of " + n + " of <" + text + ">", x.fault(1), y.fault(1));
+                due.is("text(1) of " + n + " of <" + text + ">", x.text(1), y.text(1));
+                due.is("text(0) of " + n + " of <" + text + ">", x.text(0), y.text(0));
+            }
+        }
+        NinePortraits z = new NinePortraits();
+        Due.feed(z, "b  ");
+        z.end(1);
+        due.is("no blank behind the end", z.fault(0), 1);
+        Due.feed(z, ";pf1");
+        due.is("a court", z.text(0), 1);
+        due.is("a fee of one digit", z.painter(0, 1), 1);
+        due.none("it is empty then", z.text(0));
+        due.is("a byte of another text", Due.feed(z, "p"), 1);
+        due.is("alone", z.fault(0), 1);
+    }
+
     private static void fault() {
         for (int sort : new int[] {-1, -2, 2, LEAST, MOST}) {
             NEW.answers("fault(" + sort + ")", x -> x.fault(sort), -2);
@@ -205,6 +235,42 @@ final class RefusedTest {
             });
             spoilt.answers("text(0)", x -> x.text(0), NONE);
             spoilt.answers("text(1)", x -> x.text(1), NONE);
+        }
+    }
+
+    /** All that was of another COURT is gone but LAWS, which holds, BRIBES, STATUS. */
+    private static void anotherCourt() {
+        String[] texts = {"sp60;bf3w0y4;bf8d35;pf1a0;pf2k1;pf0k3", "b;p", "p;p;p;p;p;b;b;b;b;b;b"};
+        for (String text : texts) {
+            for (int way = 0; way < 2; way++) {
+                NinePortraits x = new NinePortraits();
+                if (way == 0) {
+                    midst(x);
+                } else {
+                    full(x);
+                }
+                int laws = x.count(2);
+                int holds = x.count(4);
+                int bribes = x.count(8);
+                int refused = x.status(0);
+                x.end(0);
+                Due.feed(x, text);
+                NinePortraits fresh = Due.court(text);
+                due.is("text(0) of <" + text + ">", x.text(0), fresh.count(0));
+                due.is("all is as in a new object", Due.all(x).equals(Due.all(fresh)), true);
+                due.is("the tape is empty", x.count(3), 0);
+                due.is("MONTH 0", x.count(5), 0);
+                due.none("no act of another", x.undo());
+                due.none("no image of another", x.back());
+                due.is("laws", x.count(2), laws);
+                due.is("which holds", x.count(4), holds);
+                due.is("bribes", x.count(8), bribes);
+                due.is("status", x.status(0), refused);
+                for (int bride = 0; bride < x.count(0); bride++) {
+                    due.is("fits", x.fits(bride), 1023);
+                    due.is("seen", x.seen(bride), 0);
+                }
+            }
         }
     }
 

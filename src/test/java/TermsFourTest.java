@@ -20,6 +20,7 @@ final class TermsFourTest {
         eachMonthIsOneAct();
         purseAtItsMost();
         imageKeepsEach();
+        imageKeepsPortraits();
         imageInsteadOfTheOneAhead();
         backForgetsActs();
         imageOfAnotherCourt();
@@ -275,6 +276,28 @@ final class TermsFourTest {
             due.is("back", x.back(), month);
             due.is("so again with " + act, Due.all(x).equals(was), true);
         }
+    }
+
+    /** PORTRAITS are kept as they were, though others were painted in their places. */
+    private static void imageKeepsPortraits() {
+        NinePortraits x = Due.court("sp0;bf2;bf7;pf0;pf0");
+        for (int i = 0; i < 20; i++) {
+            x.paint(i % 2, i / 10);
+        }
+        x.image();
+        String was = Due.all(x);
+        for (int i = 0; i < 20; i++) {
+            x.undo();
+        }
+        x.months(3);
+        for (int i = 0; i < 20; i++) {
+            x.paint(1 - i % 2, 1 - i / 10);
+        }
+        due.is("others", Due.all(x).equals(was), false);
+        x.back();
+        due.is("so again", Due.all(x).equals(was), true);
+        x.undo();
+        due.is("nothing is undone", Due.all(x).equals(was), true);
     }
 
     private static void change(NinePortraits x, int act) {

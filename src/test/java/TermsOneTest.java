@@ -27,6 +27,8 @@ final class TermsOneTest {
         lawLetters();
         sixWithinOneAnother();
         moreThanSixSideBySide();
+        nothingWhereOneIsDue();
+        deepestLaws();
         blanksOfLaw();
         lawThatEndsTooEarly();
         heldWithinAMillion();
@@ -354,6 +356,72 @@ final class TermsOneTest {
         lawFault("y:((((((f=1&[f]=1))))))?f", 12);
         lawFault("y:((((((f=1)))))&[[[[[f]]]]]=1)?f", -1);
         lawFault("y:((((((f=1)))))&[[[[[[f]]]]]]=1)?f", 22);
+        lawFault("y:f=1?[[[[[[f]]]]]]", -1);
+        lawFault("y:f=1?[[[[[[[f]]]]]]]", 12);
+        lawFault("y:f=[[[[[[f]]]]]]?f", -1);
+        lawFault("y:f=[[[[[[[f]]]]]]]?f", 10);
+        lawFault("y:f;y:[[[[[[[f]]]]]]]", 12);
+        lawFault("y:f=1|(((((((f=1)))))))?f", 12);
+    }
+
+    /** Where a CONDITION, UNIT, SUM or ATOM should stand and nothing does. */
+    private static void nothingWhereOneIsDue() {
+        lawFault("y:?f", 2);
+        lawFault("y:=1?f", 2);
+        lawFault("y:f=?f", 4);
+        lawFault("y:f=1?;y:f", 6);
+        lawFault("y:f=1??f", 6);
+        lawFault("y:!?f", 3);
+        lawFault("y:!=1?f", 3);
+        lawFault("y:!f?f", 4);
+        lawFault("y:!f=?f", 5);
+        lawFault("y:!&f=1?f", 3);
+        lawFault("y:(?f", 3);
+        lawFault("y:()?f", 3);
+        lawFault("y:(f)?f", 4);
+        lawFault("y:(f=)?f", 5);
+        lawFault("y:(f=1?f", 6);
+        lawFault("y:(f=1&)?f", 7);
+        lawFault("y:(f=1|)?f", 7);
+        lawFault("y:(!)?f", 4);
+        lawFault("y:&f=1?f", 2);
+        lawFault("y:|f=1?f", 2);
+        lawFault("y:f=1&?f", 6);
+        lawFault("y:f=1|?f", 6);
+        lawFault("y:f=1&&f=1?f", 6);
+        lawFault("y:f=1||f=1?f", 6);
+        lawFault("y:f=1&w?f", 7);
+        lawFault("y:f=1|w?f", 7);
+        lawFault("y:[]", 3);
+        lawFault("y:[?f", 3);
+        lawFault("y:[f?f", 4);
+        lawFault("y:[f=1]", 4);
+        lawFault("y:+f", 2);
+        lawFault("y:f+?", 4);
+        lawFault("y:f+;y:f", 4);
+        lawFault("y:f**w", 4);
+        lawFault("y:f/]", 4);
+        lawFault("y::f", 2);
+        lawFault("yf", 1);
+        lawFault("y:f;:f", 4);
+    }
+
+    /** As many numbers and truths wait for one another as six within one another let. */
+    private static void deepestLaws() {
+        String waits = "1=2|1=1&";
+        String deep = ("(" + waits).repeat(6);
+        shows("y:" + waits + deep + "1+2*3=7*1+0*5" + ")".repeat(6) + "?8;y:2", 8);
+        shows("y:" + waits + deep + "1+2*3=7*1+1*5" + ")".repeat(6) + "?8;y:2", 2);
+        // 1 becomes -1, 3, -5, 11, -21, 43.
+        shows("y:" + waits + "43=" + "1-2*[".repeat(6) + "0*1+1" + "]".repeat(6) + "?8;y:2", 8);
+        shows("y:" + "1-2*[".repeat(6) + "0*1+1" + "]".repeat(6) + "-38", 5);
+        shows("y:" + waits + "1-2*[".repeat(6) + "0*1+1" + "]".repeat(6) + "=43?8;y:2", 8);
+        shows("y:!!!!!!1=1&" + waits + "!!!!!!1=1?8;y:2", 8);
+        shows("y:" + "1+".repeat(118) + "1", 9);
+        shows("y:" + "f-".repeat(118) + "f", 0);
+        shows("y:" + "1=1&".repeat(58) + "1=1?3", 3);
+        shows("y:" + "1=2|".repeat(58) + "1=1?3", 3);
+        shows("y:" + "1=1|".repeat(58) + "1=2?3", 3);
     }
 
     private static void blanksOfLaw() {
@@ -435,14 +503,14 @@ final class TermsOneTest {
     }
 
     private static void joinedTruths() {
-        String[] truths = {"1=2", "1=1"};
-        for (int way = 0; way < 8; way++) {
+        String[][] truths = {{"1=2", "1=1"}, {"2<1", "1<2"}, {"1>2", "2>1"}, {"!1<2", "!1>2"}};
+        for (int way = 0; way < 8 * 64; way++) {
             int a = way & 1;
             int b = way >> 1 & 1;
-            int c = way >> 2;
-            String p = truths[a];
-            String q = truths[b];
-            String r = truths[c];
+            int c = way >> 2 & 1;
+            String p = truths[way >> 3 & 3][a];
+            String q = truths[way >> 5 & 3][b];
+            String r = truths[way >> 7][c];
             shows("y:" + p + "&" + q + "&" + r + "?8;y:2", (a & b & c) == 1 ? 8 : 2);
             shows("y:" + p + "|" + q + "|" + r + "?8;y:2", (a | b | c) == 1 ? 8 : 2);
             shows("y:" + p + "|" + q + "&" + r + "?8;y:2", (a | b & c) == 1 ? 8 : 2);

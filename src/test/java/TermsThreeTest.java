@@ -243,6 +243,15 @@ final class TermsThreeTest {
         NinePortraits y = Due.court("b;ps3;ps2;ps5;ps2");
         Due.law(y, "y:f/s");
         due.is("of two the lowest", y.next(0), 1);
+        NinePortraits z = Due.court("b;pk3;p;p");
+        Due.law(z, "y:5");
+        due.is("all are alike by all", z.next(0), 1);
+        for (int f = 0; f < 9; f++) {
+            NinePortraits two = Due.court("b;ps1;ps2");
+            Due.law(two, "y:s=1&f=" + f + "?f+1;y:f");
+            due.is(f + " and the next alike by the first", two.next(0), 1);
+            due.is(f + " and the next told by the second", two.apart(0), 2);
+        }
     }
 
     private static void apartOfSeveral() {
@@ -273,6 +282,18 @@ final class TermsThreeTest {
         y.shoe(0);
         due.is("6 and 8 are not", y.apart(0), 2);
         due.none("kind 3 alone", Due.court("bw0y0;pk3").apart(0));
+        for (int f = 0; f < 10; f++) {
+            for (int g = 0; g < 10; g++) {
+                NinePortraits alike = Due.court("bf8;p");
+                Due.law(alike, "y:f=" + f + "?" + g + ";y:f");
+                due.is(f + " as " + g, alike.apart(0), f == g ? 1 : -1);
+                alike.letter(0);
+                due.is(f + " as " + g + " from 5 on", alike.apart(0), f >= 5 && g >= 5 && f != g ? -1 : 1);
+                alike.shoe(0);
+                boolean both = f % 2 == 0 && g % 2 == 0 && f > 5 && g > 5 && f != g;
+                due.is(f + " as " + g + " of 6 and 8", alike.apart(0), both ? -1 : 1);
+            }
+        }
     }
 
     private static void worthOfDowry() {
@@ -297,6 +318,20 @@ final class TermsThreeTest {
         due.is("the last by true faces", z.chooses(1), 5);
         due.is("the first by dowries", z.chooses(2), 0);
         due.is("the first by likely faces", z.chooses(0), 0);
+        NinePortraits told = Due.court("sf1d0;bf9w0y0;bf3w0y0;bf3w0y0;bf2w0y0;ps9f0");
+        told.paint(0, 3);
+        due.is("by likely faces 0, 0, 0, 2", told.chooses(0), 3);
+        told.paint(0, 2);
+        due.is("by 0, 0, 3, 2", told.chooses(0), 2);
+        told.paint(0, 1);
+        due.is("by 0, 3, 3, 2 the lowest", told.chooses(0), 1);
+        due.is("the true one", told.chooses(1), 0);
+        due.is("loss", told.chooses(3), 6);
+        told.letter(0);
+        due.is("by 5, 3, 3, 2", told.chooses(0) + told.chooses(3), 0);
+        NinePortraits rich = Due.court("sf9d1;bf9w0y0d19;bf0w0y0d20;ps9f0");
+        rich.paint(0, 0);
+        due.is("by dowry alone, no face", rich.chooses(2), 1);
         NinePortraits one = Due.court("bf0d0;p");
         due.is("one alone", one.chooses(0) + one.chooses(1) + one.chooses(2) + one.chooses(3), 0);
     }
@@ -354,6 +389,10 @@ final class TermsThreeTest {
         due.is("91", y.rests(0, 1, 0, 1), 91);
         due.none("no third", y.rests(0, 1, 0, 2));
         due.is("turned round", y.rests(1, 0, 0, 1), 19);
+        NinePortraits less = Due.court("b;b;p");
+        Due.law(less, "y:y=0?9;y:0");
+        due.is("to pay nothing is best", less.rests(0, 1, 0, -1), 1);
+        due.is("00", less.rests(0, 1, 0, 0), 0);
         NinePortraits z = Due.court("b;b;p");
         Due.law(z, "y:y");
         due.is("none rests", z.rests(0, 1, 0, -1), 0);
@@ -486,6 +525,13 @@ final class TermsThreeTest {
         }
         NinePortraits y = Due.court("b;pf3;pf2;pf1;pf2;pf1");
         due.is("one bride", y.matched(0), 2);
+        NinePortraits all = Due.court("b;b;b;b;b;b;p;p;p;p;p");
+        for (int bride = 0; bride < 6; bride++) {
+            due.is("six and five", all.matched(bride), bride < 5 ? bride : -1);
+        }
+        Due.feed(all, "b;b;p");
+        all.text(0);
+        due.none("of a court with fewer", all.matched(1));
         x.pay(0, 5);
         due.is("as much, but lower", x.matched(0), 0);
         due.none("as much, but higher", x.matched(5));

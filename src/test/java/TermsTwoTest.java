@@ -377,29 +377,37 @@ final class TermsTwoTest {
         due.none("999 and 1", inMonth(999).months(1));
     }
 
+    /** All these (each MONTH) are ACTS, and each is UNDONE as a whole, and alone. */
     private static void eachIsAnAct() {
-        NinePortraits x = Due.court("bf3w0y4;pa0");
-        int acts = 0;
-        x.paint(0, 0);
-        due.is("painted", x.count(9), ++acts);
-        x.pay(0, 1);
-        due.is("paid", x.count(9), ++acts);
-        x.threaten(0);
-        due.is("threatened", x.count(9), ++acts);
-        x.letter(0);
-        due.is("a letter", x.count(9), ++acts);
-        x.shoe(0);
-        due.is("a shoe", x.count(9), ++acts);
-        x.wed(0);
-        due.is("wed", x.count(9), ++acts);
-        x.annul();
-        due.is("annulled", x.count(9), ++acts);
-        x.months(3);
-        due.is("three months", x.count(9), acts + 3);
+        NinePortraits x = Due.court("bf3w0y4;b;pa0;p");
+        String[] states = new String[11];
+        for (int act = 0; act < 10; act++) {
+            states[act] = Due.all(x);
+            switch (act) {
+                case 0 -> x.paint(0, 0);
+                case 1 -> x.pay(0, 1);
+                case 2 -> x.threaten(1);
+                case 3 -> x.letter(1);
+                case 4 -> x.shoe(0);
+                case 5 -> x.wed(0);
+                case 6 -> x.annul();
+                case 7 -> x.months(1);
+                case 8 -> x.letter(0);
+                default -> x.shoe(1);
+            }
+            due.is("act " + act, x.count(9), act + 1);
+            due.is("act " + act + " changes something", Due.all(x).equals(states[act]), false);
+        }
         x.bribes(3);
         x.law(-1);
         x.image();
-        due.is("no acts", x.count(9), acts + 3);
+        due.is("no acts", x.count(9), 10);
+        for (int act = 9; act >= 0; act--) {
+            due.is("undone " + act, x.undo(), act);
+            due.is("as it was ahead of " + act, Due.all(x).equals(states[act]), true);
+        }
+        x.months(3);
+        due.is("each month", x.count(9), 3);
     }
 
     /** The latest 40 can be UNDONE one by one. */
