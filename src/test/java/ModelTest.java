@@ -41,9 +41,20 @@ final class ModelTest {
         due.is("text(" + sort + ") of <" + m.tape + ">", x.text(sort), m.text(sort));
     }
 
+    /** Another court is read, and is no court by its last sign. */
+    private static void readOnly() {
+        x.end(0);
+        m.tape = Texts.court(lot) + ";";
+        Due.feed(x, m.tape);
+        due.is("fault(0) of <" + m.tape + ">", x.fault(0), m.tape.length());
+        due.is("text(0) of <" + m.tape + ">", x.text(0), -1);
+    }
+
     private static void step(String where) {
-        int kind = lot.nextInt(100);
-        if (kind < 1) {
+        int kind = lot.nextInt(103);
+        if (kind >= 100) {
+            readOnly();
+        } else if (kind < 1) {
             takeText(0);
         } else if (kind < 4) {
             takeText(1);

@@ -80,6 +80,8 @@ final class RefusedTest {
         bytesBehindTheEnd();
         fault();
         text();
+        sortsOfATape();
+        readingIsNoTaking();
         anotherCourt();
         rule();
         bride();
@@ -235,6 +237,76 @@ final class RefusedTest {
             });
             spoilt.answers("text(0)", x -> x.text(0), NONE);
             spoilt.answers("text(1)", x -> x.text(1), NONE);
+        }
+    }
+
+    private static void sortsOfATape() {
+        for (int sort : new int[] {-1, 2, 3, LEAST, MOST}) {
+            withTape("y:f").answers("text(" + sort + ")", x -> x.text(sort), NONE);
+            withTape("b;p").answers("text(" + sort + ")", x -> x.text(sort), NONE);
+        }
+        withTape("y:f").answers("text(0)", x -> x.text(0), NONE);
+        withTape("b;p").answers("text(1)", x -> x.text(1), NONE);
+    }
+
+    /** A tape that is read, but not taken, changes nothing of the COURT: all acts and answers are as without. */
+    private static void readingIsNoTaking() {
+        String text = "sp60f4d5;bf3w0y4d50;bf8d35w5y1;bf6d19;ps7f3a7;pf2k1s2;pf0k3;pf6a1k2";
+        String[] others = {"sp1f9d0;bf9w9y9d0;bf0d99w0y9;bf1d1;ps1f9a1k3;pf9k0s9;pf9k1;pf0a9k3;", "b;", "p;",
+            "sf1;bf1;bf2;bf3;bf4;bf5;bf6;pf1;pf2;pf3;pf4;pf5;"};
+        for (String other : others) {
+            NinePortraits plain = Due.court(text);
+            NinePortraits read = Due.court(text);
+            for (int act = 0; act < 12; act++) {
+                Due.feed(read, other);
+                due.is("fault(0) of <" + other + ">", read.fault(0), other.length());
+                due.none("text(0) of <" + other + ">", read.text(0));
+                due.is("act " + act + " behind <" + other + ">", did(read, act), did(plain, act));
+                read.end(0);
+                if (act % 4 == 3) {
+                    Due.feed(read, other);
+                    read.fault(0);
+                    due.is("answers behind act " + act + " and <" + other + ">",
+                        Twin.answers(read).equals(Twin.answers(plain)), true);
+                    read.end(0);
+                }
+            }
+        }
+        NinePortraits none = new NinePortraits();
+        Due.feed(none, "b;p");
+        due.is("no fault", none.fault(0), NONE);
+        due.none("but no court", none.rule(0));
+        due.none("but no painter", none.painter(0, 0));
+        due.refusesBride(none, 0, 0);
+        due.is("nothing", none.count(0) + none.count(1), 0);
+    }
+
+    private static int did(NinePortraits x, int act) {
+        switch (act) {
+            case 0:
+                return x.paint(0, 0);
+            case 1:
+                return x.paint(1, 1);
+            case 2:
+                return x.paint(3, 2);
+            case 3:
+                return x.letter(1);
+            case 4:
+                return x.shoe(2);
+            case 5:
+                return x.wed(0);
+            case 6:
+                return x.annul();
+            case 7:
+                return x.decades(5, 99L);
+            case 8:
+                return x.paint(2, 0);
+            case 9:
+                return x.threaten(3);
+            case 10:
+                return x.pay(2, 5);
+            default:
+                return x.undo();
         }
     }
 

@@ -71,6 +71,32 @@ final class Twin {
         return told.toString();
     }
 
+    /** What every question is answered; some 150 calls with three brides and four painters. */
+    static String answers(NinePortraits x) {
+        StringBuilder told = new StringBuilder();
+        court(told, x);
+        for (int bride = 0; bride < x.count(0); bride++) {
+            int[] each = {x.fits(bride), x.belief(bride, 3), x.likely(bride, 0), x.likely(bride, 1), x.sure(bride, 9),
+                x.next(bride), x.apart(bride), x.worth(bride, 4), x.looks(bride), x.matched(bride), x.seen(bride),
+                x.rivals(bride)};
+            told.append(java.util.Arrays.toString(each));
+        }
+        for (int painter = 0; painter < x.count(1); painter++) {
+            int[] each = {x.flattery(painter, 0), x.shown(painter, 1, 2), x.game(0, 1, painter, 3, 4, 0),
+                x.game(1, 0, painter, 5, 2, 1), x.rests(0, 1, painter, -1), x.rests(0, 1, painter, 0),
+                x.truth(painter, 0), x.whose(painter, 7), x.whose(painter, 8), x.whose(painter, 9),
+                x.heads(painter, 3, 45), x.affords(painter), x.told(painter)};
+            told.append(java.util.Arrays.toString(each));
+        }
+        for (int what = 0; what < 5; what++) {
+            told.append(' ').append(x.chooses(what)).append(' ').append(x.most(what));
+        }
+        for (int set = 0; set < 9; set++) {
+            told.append(' ').append(x.cheapest(set, 0)).append(' ').append(x.cheapest(set, 1));
+        }
+        return told.append(Due.all(x)).toString();
+    }
+
     private static void court(StringBuilder told, NinePortraits x) {
         for (int what = 0; what < 3; what++) {
             told.append(' ').append(x.rule(what));
