@@ -11,15 +11,26 @@ final class Due {
     void is(String call, long got, long want) {
         asked++;
         if (got != want) {
-            wrong++;
-            if (wrong <= 40) {
-                System.out.println(call + " answered " + got + ", due is " + want);
-            }
+            tellWrong(call, String.valueOf(got), String.valueOf(want));
         }
     }
 
     void is(String call, boolean got, boolean want) {
         is(call, got ? 1 : 0, want ? 1 : 0);
+    }
+
+    void is(String call, String got, String want) {
+        asked++;
+        if (!got.equals(want)) {
+            tellWrong(call, got, want);
+        }
+    }
+
+    private void tellWrong(String call, String got, String want) {
+        wrong++;
+        if (wrong <= 40) {
+            System.out.println(call + " answered " + got + ", due is " + want);
+        }
     }
 
     void none(String call, long got) {

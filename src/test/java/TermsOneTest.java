@@ -19,6 +19,7 @@ final class TermsOneTest {
         eachLetterOnce();
         lettersOfOtherClauses();
         fullestCourt();
+        oneMoreThanAll();
         blanksOfCourt();
         courtThatEndsTooEarly();
         howManyLaws();
@@ -188,6 +189,18 @@ final class TermsOneTest {
         String wide = " ".repeat(240 - text.length()) + text;
         courtFault(wide, -1);
         due.is("a court of 240 bytes", wide.length(), 240);
+    }
+
+    /** Behind all twelve clauses: the one too many is wrong at it, not at the ; ahead of it. */
+    private static void oneMoreThanAll() {
+        String all = "s" + ";b".repeat(6) + ";p".repeat(5);
+        courtFault(all, -1);
+        courtFault(all + ";", 24);
+        courtFault(all + "; ", 25);
+        for (String more : "s b p x ;".split(" ")) {
+            courtFault(all + ";" + more, 24);
+            courtFault(all + " ; " + more, 26);
+        }
     }
 
     private static boolean isDigit(char sign) {
