@@ -23,6 +23,7 @@ final class ReadmeTest {
         everyLineIsCompared(page);
         constantsAreShown(page);
         filesAreThere(page);
+        boundsAreAsTheTableSays(page);
         smallPage();
         looseLines();
         wrongAnswersAreSeen();
@@ -83,6 +84,38 @@ final class ReadmeTest {
         }
         due.is("the class is named", files.contains("src/main/java/NinePortraits.java"), true);
         due.is("the tests are run by", page.contains(".ci/run") && Files.isExecutable(Path.of(".ci/run")), true);
+    }
+
+    /** The letters of a clause stand in the table as rule, bride and painter number them. */
+    private static void boundsAreAsTheTableSays(List<String> page) {
+        int letters = 0;
+        for (String line : page) {
+            Matcher clause = Pattern.compile("\\| `([sbp])` .*").matcher(line);
+            if (!clause.matches()) {
+                continue;
+            }
+            Matcher letter = Pattern.compile("`([a-z])` [a-z ]+ \\(0 to (\\d+); (\\d+)\\)").matcher(line);
+            for (int what = 0; letter.find(); what++) {
+                letters++;
+                String ahead = clause.group(1) + letter.group(1);
+                int most = Integer.parseInt(letter.group(2));
+                due.is(ahead + " without", told(clause.group(1), what), Integer.parseInt(letter.group(3)));
+                due.is(ahead + " at least", told(ahead + "0", what), 0);
+                due.is(ahead + " at most", told(ahead + most, what), most);
+                due.is(ahead + " beyond", told(ahead + (most + 1), what), -1);
+            }
+        }
+        due.is("letters in the table", letters, 11);
+    }
+
+    /** What is told of the one that the clause is about; -1 if it makes no court. */
+    private static int told(String clause, int what) {
+        NinePortraits x = new NinePortraits();
+        Due.feed(x, clause + (clause.startsWith("b") ? "" : ";b") + (clause.startsWith("p") ? "" : ";p"));
+        if (x.text(0) < 0) {
+            return -1;
+        }
+        return clause.startsWith("s") ? x.rule(what) : clause.startsWith("b") ? x.bride(0, what) : x.painter(0, what);
     }
 
     private static void smallPage() {
